@@ -15,6 +15,7 @@ public final class PromiseTest {
         promise4TableTells();
         promise4TableForgets();
         promise4Faults();
+        promise4FaultLeavesNothing();
         promise5Cell();
         promise6Told();
         promise7Toy();
@@ -181,6 +182,29 @@ public final class PromiseTest {
         due("the lot stays", x.lot(1), 88);
     }
 
+    private static void promise4FaultLeavesNothing() {
+        TinMouse x = new TinMouse();
+        Checks.typeText(x, "table 5 5;hole 0 0 1 1;book 1 1 1 1;start 1 1 1;toy 3 4 5 6;bell 0 0;q");
+        due("a fault at the very end", x.table(), -10 - 69);
+        dueNow("behind the fault", x, 0, 2, 0, 200);
+        x.clear();
+        Checks.typeText(x, "bell 7 7;");
+        due("another text", x.table(), 1);
+        int[] told = {8, 8, 1, 3, 0, 200, 63, 0, 2};
+        for (int what = 0; what < told.length; what++) {
+            due("behind a fault: told(" + what + ")", x.told(what), told[what]);
+        }
+        due("behind a fault: cell(0, 0)", x.cell(0, 0), 0);
+        due("behind a fault: cell(1, 1)", x.cell(1, 1), 0);
+        Checks.typeText(x, "bell 6 7;start 7 0 2;");
+        due("the bell may be told again in another text", x.table(), 2);
+        due("it is moved", x.told(6), 62);
+        due("the way ahead", x.round(1), 64);
+        Checks.typeText(x, "table 3 3;toy 1 4 0 9;start 0 0 2;");
+        due("a third text", x.table(), 3);
+        due("ways are of this table", x.round(1), 6);
+    }
+
     private static void dueFault(String text, int place) {
         TinMouse x = new TinMouse();
         int bytes = Checks.typeText(x, text);
@@ -194,6 +218,12 @@ public final class PromiseTest {
             dueFault(text, 0);
         }
         dueFault("  hol", 2);
+        dueFault("tablez 3 3;", 0);
+        dueFault("atable 3 3;", 0);
+        dueFault("table{3 3;", 5);
+        dueFault("table`3 3;", 5);
+        dueFault("table 3/3;", 7);
+        dueFault("table 3:3;", 7);
         dueFault("table", 5);
         dueFault("table 3 3", 9);
         dueFault("table 3 3  ", 11);
@@ -358,6 +388,7 @@ public final class PromiseTest {
         due("not cornered by a shorter nose", turnAt("toy 2 1 0 9;start 5 1 1;", 1), 1);
         due("cornered by holes", turnAt("hole 3 2 2 1;hole 4 3 1 1;start 3 3 1;", 1), 3);
         due("one wood beside is enough", turnAt("hole 3 2 1 1;hole 4 2 1 1;start 3 3 1;", 1), 1);
+        due("the other one, too", turnAt("hole 4 2 1 2;start 3 3 1;", 1), 1);
         due("a book beside is wood", turnAt("hole 3 2 2 1;book 4 3 1 1;start 3 3 1;", 1), 1);
         due("struck", turnAt("book 1 0 1 1;", 1), 5);
         due("struck goes ahead of the nose", turnAt("toy 2 3 0 9;book 7 0 1 1;start 6 0 2;", 1), 5);
@@ -457,6 +488,7 @@ public final class PromiseTest {
     private static void promise10Put() {
         TinMouse x = Checks.told("table 6 5;hole 1 1 1 1;book 2 2 1 1;toy 1 1 4 50;");
         x.go(7);
+        due("put(0, 0, 7)", x.put(0, 0, 7), 1);
         due("put(5, 4, 3)", x.put(5, 4, 3), 1);
         dueNow("put", x, 29, 3, 0, 43, 0, 7, 6, 1, 0, 1);
         int[][] bad = {{1, 1, 0}, {2, 2, 0}, {6, 0, 0}, {0, 5, 0}, {-1, 0, 0}, {0, -1, 0}, {0, 0, -1}, {0, 0, 8}};
@@ -563,6 +595,13 @@ public final class PromiseTest {
         due("trapped: the corners' slants", fro.starts(2), 8);
         due("rounds", fro.starts(3), 3 + 3 + 2 * 5);
         due("the longest", fro.starts(4), 6);
+        for (int what = 0; what < one.length; what++) {
+            due("one cell, asked again: starts(" + what + ")", x.starts(what), one[what]);
+        }
+        TinMouse shorter = Checks.told("table 5 3;toy 1 4 0 9;");
+        due("the longest of 5 3", shorter.starts(4), 10);
+        shorter.toy(1, 2);
+        due("round the edge by another turn", shorter.starts(4), 16);
         TinMouse none = Checks.told("hole 0 0 8 4;book 0 4 8 4;start 0 5 0;");
         for (int what = 0; what <= 4; what++) {
             due("no starts: starts(" + what + ")", none.starts(what), 0);
@@ -600,6 +639,7 @@ public final class PromiseTest {
     private static void promise16Common() {
         TinMouse cage = Checks.told("table 3 3;hole 0 0 3 1;hole 0 2 3 1;hole 0 1 1 1;hole 2 1 1 1;");
         due("one cell", cage.common(), 4);
+        due("asked again", cage.common(), 4);
         due("two rounds apart", Checks.told("table 3 3;toy 1 4 0 9;").common(), NONE);
         due("no starts, no rounds", Checks.told("hole 0 0 8 8;").common(), NONE);
         String cross = "table 3 3;hole 0 0 1 1;hole 2 0 1 1;hole 0 2 1 1;hole 2 2 1 1;toy 1 2 0 9;";
@@ -683,6 +723,11 @@ public final class PromiseTest {
         for (int far : FAR) {
             due("best(" + far + ")", x.best(far), BAD);
         }
+        for (int turn = 1; turn <= 7; turn++) {
+            due("the one that moves", Checks.told("table 3 3;start 1 1 2;hole 2 1 1 1;" + starHoles((2 + turn) % 8))
+                .best(2), turn);
+        }
+        due("best(999)", x.best(999), 3);
         TinMouse corner = Checks.told("start 7 0 2;");
         due("down along the edge by 2, or in by 3: the least that moves", corner.best(2), 2);
         TinMouse over = Checks.told("hole 0 0 1 1;");
@@ -747,6 +792,12 @@ public final class PromiseTest {
         x.track(15);
         due("a turn at the corner into down: by 5 ways", x.fits(0), 50);
         due("the first", x.fits(1), 103);
+        x.wipe();
+        for (int cell : new int[] {36, 27, 18, 9, 0, 0, 8}) {
+            x.track(cell);
+        }
+        due("to the corner and down: turned by 5, bent at 0, 5, 6, .., or by 4, bent at 4 there", x.fits(0), 7);
+        due("the first", x.fits(1), 447);
         TinMouse hole = Checks.told("table 5 3;hole 2 1 1 1;toy 2 4 0 9;");
         hole.track(7);
         due("one told, a hole", hole.fits(0), 560);
@@ -776,6 +827,12 @@ public final class PromiseTest {
         due("the one ahead comes back", x.meet(5, 1, 2), 4);
         due("across its way, after many times", x.meet(3, 0, 0), 17);
         due("never", x.meet(3, 0, 2), NONE);
+        due("meet(0, 0, 7)", x.meet(0, 0, 7) >= NONE ? 1 : 0, 1);
+        String wide = "table 14 16;book 5 14 1 1;book 3 1 1 1;toy 1 5 1 9;";
+        due("as late as may be", Checks.told(wide + "start 12 6 7;").meet(0, 10, 7), 4096);
+        due("one too late", Checks.told(wide + "start 13 6 6;").meet(1, 10, 6), NONE);
+        TinMouse bends = Checks.told("table 7 4;toy 1 4 2 9;start 3 3 0;");
+        due("the other one is not bent yet", bends.meet(1, 2, 1), 3);
         int[][] bad = {{6, 0, 0}, {6, 2, 0}, {7, 0, 0}, {0, 3, 0}, {-1, 0, 0}, {0, -1, 0}, {0, 0, -1}, {0, 0, 8}};
         for (int[] b : bad) {
             due("meet(" + b[0] + ", " + b[1] + ", " + b[2] + ")", x.meet(b[0], b[1], b[2]), BAD);
@@ -843,7 +900,7 @@ public final class PromiseTest {
         for (int turn = 1; turn <= 7; turn++) {
             // all but one cell beside the middle are holes, so it moves on at once only by one turn
             int d = (2 + turn) % 8;
-            TinMouse x = Checks.told("table 3 3;hole 2 1 1 1;start 1 1 2;" + starHoles(d));
+            TinMouse x = Checks.told("table 3 3;start 1 1 2;hole 2 1 1 1;" + starHoles(d));
             x.lot(lotAheadOf(next));
             if (x.drawn(2) == 2) {
                 return turn;
@@ -1005,14 +1062,16 @@ public final class PromiseTest {
         }
         due("two images", x.back(0), 0);
         due("two images", x.back(1), 4);
+        due("two images", x.back(0), 0);
+        due("the first is where it was", x.now(0), 0);
         x.go(5);
-        due("kept anew", x.keep(0), 9);
+        due("kept anew", x.keep(0), 5);
         x.anew();
-        due("is what is kept", x.back(0), 9);
+        due("is what is kept", x.back(0), 5);
     }
 
     private static void promise32Back() {
-        TinMouse x = Checks.told("table 6 5;toy 1 1 4 50;bell 3 0;start 1 0 2;");
+        TinMouse x = Checks.told("table 4 4;toy 1 2 3 90;bell 2 0;start 1 0 2;");
         due("back(0) of none", x.back(0), STATE);
         due("back(2)", x.back(2), BAD);
         due("back(-1)", x.back(-1), BAD);
@@ -1020,7 +1079,7 @@ public final class PromiseTest {
             due("back(" + far + ")", x.back(far), BAD);
         }
         x.lot(99);
-        x.go(6);
+        x.go(3);
         int[] kept = new int[10];
         for (int what = 0; what < 10; what++) {
             kept[what] = x.now(what);
@@ -1028,24 +1087,29 @@ public final class PromiseTest {
         int row = x.rate(4);
         x.keep(1);
         x.lot(3);
-        x.go(9);
+        x.go(29);
+        int same = 0;
+        for (int what = 0; what < 10; what++) {
+            same += what != 4 && x.now(what) == kept[what] ? 1 : 0;
+        }
+        due("all but that it goes is another", same, 0);
         x.toy(0, 3);
-        x.toy(1, 2);
+        x.toy(1, 6);
         x.track(2);
         x.key(1, 1);
         long trace = x.trace();
-        due("back(1)", x.back(1), 6);
+        due("back(1)", x.back(1), 3);
         dueNow("back", x, kept);
         due("the lot, too", x.lot(98), 99);
         due("nothing of the toy", x.told(2), 3);
-        due("nothing of the toy", x.told(3), 2);
+        due("nothing of the toy", x.told(3), 6);
         due("nothing of the tracks", x.count(3), 1);
         due("nothing of the keys", x.count(4), 1);
         due("nothing of the trace", x.trace(), trace);
         x.toy(0, 1);
         due("how many in a row, too", x.rate(4), row);
         due("back(0) still of none", x.back(0), STATE);
-        due("back(1) again", x.back(1), 6);
+        due("back(1) again", x.back(1), 3);
         due("the lot again", x.lot(1), 99);
     }
 
