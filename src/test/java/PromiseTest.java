@@ -218,6 +218,10 @@ public final class PromiseTest {
             dueFault(text, 0);
         }
         dueFault("  hol", 2);
+        for (String word : new String[] {"cable 3 3;", "pole 0 0 1 1;", "cook 0 0 1 1;", "cell 0 0;", "boy 1 1 1 1;",
+            "ttart 0 0 0;", "ho 0 0 1 1;", "bel 0 0;", "tox 1 1 1 1;", "to 1 1 1 1;"}) {
+            dueFault(word, 0);
+        }
         dueFault("tablez 3 3;", 0);
         dueFault("atable 3 3;", 0);
         dueFault("table{3 3;", 5);
