@@ -1,3 +1,5 @@
+import java.util.function.IntUnaryOperator;
+
 /** Counts answers that are not as due, and types texts. */
 final class Checks {
     private int asked;
@@ -8,6 +10,18 @@ final class Checks {
         if (got != want) {
             wrong++;
             System.out.println(call + " answered " + got + ", due is " + want);
+        }
+    }
+
+    /** A number of a call: its least and its most are taken; one less, one more and those far off are refused. */
+    void range(String call, IntUnaryOperator ask, int least, int most, int refusal) {
+        for (int v : new int[] {least, most}) {
+            due(call + " takes " + v, ask.applyAsInt(v) == refusal ? 1 : 0, 0);
+        }
+        int[] off = {least - 1, most + 1, -least - 1000, most + 256, most + 65536, Integer.MIN_VALUE,
+            Integer.MIN_VALUE + 1, Integer.MAX_VALUE};
+        for (int v : off) {
+            due(call + " of " + v, ask.applyAsInt(v), refusal);
         }
     }
 
