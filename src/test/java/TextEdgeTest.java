@@ -43,6 +43,7 @@ public final class TextEdgeTest {
         numbersAbove999();
         zeroAhead();
         endsTooEarly();
+        endsWhereItEnds();
         firstFaultOfSeveral();
         faultPlaces();
         faultChangesNothing();
@@ -628,6 +629,27 @@ public final class TextEdgeTest {
         }
         fault("bell 1 1   ", "");
         fault("bell 1 1;  start   ", "");
+    }
+
+    /** Bytes that an earlier, longer text had are none of a shorter one's. */
+    private static void endsWhereItEnds() {
+        String[] texts = {"bell 1 1;", "bell 1 1", "bell 1", "bell ", "bell", "be", "toy 1 1 1 1", "table 3 3;  ", ""};
+        for (String text : texts) {
+            for (String tail : new String[] {"1", "l", " ", ";", "7;", "ll 1 1;", " 1;"}) {
+                TinMouse x = new TinMouse();
+                Checks.typeText(x, text + tail);
+                due("clear()", x.clear(), text.length() + tail.length());
+                Checks.typeText(x, text);
+                due("\"" + text + "\" behind one that went on by \"" + tail + "\"", x.table(), Checks.tableOf(text));
+            }
+        }
+        TinMouse x = new TinMouse();
+        Checks.typeText(x, "bell 1 1;bell 1 1;");
+        x.clear();
+        Checks.typeText(x, "bell 1 1;");
+        due("one item behind two", x.table(), 1);
+        Checks.typeText(x, "bell 2 ");
+        due("too early behind one", x.table(), -10 - 7);
     }
 
     // the place of the first byte of the first TOKEN that can't stand there

@@ -847,6 +847,11 @@ public final class WayEdgeTest {
         books.drawn(3);
         due("STRUCK turns are drawn, too", books.lot(1), next(next(next(1))));
         due("TURN stays", books.told(3), 3);
+        for (int d : new int[] {0, 1, 7}) {
+            TinMouse corner = put("table 3 3;", 0, 0, d);
+            corner.drawn(1);
+            due("a turn on cell 0 from " + d, corner.lot(1), next(1));
+        }
         due("no turn of NOW", books.now(7), 0);
         for (int ahead : new int[] {0, -1, Integer.MAX_VALUE, Integer.MIN_VALUE, 1 << 16, -12345}) {
             TinMouse y = Checks.told(CAGE + "start 1 1 0;");
